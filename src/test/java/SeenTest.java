@@ -93,6 +93,15 @@ public final class SeenTest {
         // More than one can be, and no beat tells them apart: the first of equals.
         lookOf("d3 3 0..;", 1);
         lookOf("d3 3 0ct1;", 1);
+        // What an earlier look() found must not go on counting.
+        DanceStaffs again = Checks.told("d0 0 0j0j0j0j0;");
+        Checks.due("a first look", again.look(), 1);
+        Checks.type(again, "d3 3 0.........j0;");
+        again.dance();
+        Checks.due("a second look", again.look(), 10);
+        Checks.type(again, "d3 3 0..j2.;");
+        again.dance();
+        Checks.due("a third look", again.look(), 3);
         DanceStaffs x = Checks.told("d3 3 0j0j2j4;");
         x.sees(1, 3, 4);
         Checks.due("two can be", x.unseen(), 6);

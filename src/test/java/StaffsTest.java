@@ -93,6 +93,8 @@ public final class StaffsTest {
         fault("d00 0;", 1);
         fault("d0 01 0;", 3);
         fault("d0 10 0;", 3);
+        fault("d0 19 0;", 3);
+        fault("d0 0 09;", 5);
         fault("d0 99999999999999999999 0;", 3);
         fault("d0 4294967296 0;", 3);
         fault("d0 0 0l", 7);
@@ -265,6 +267,9 @@ public final class StaffsTest {
         ofStaff("d3 3 0l0r2l4r6c;", 5, NONE, 4, 5, 4);
         ofStaff("d0 0 0j0j0j0j0j0j0j2j2j2j2;", 10, NONE, 11, 0, NONE);
         ofStaff("d0 0 0j0j0j0j2j2j4j4j4j6j6;", 10, NONE, 10, 0, 10);
+        ofStaff("d3 3 2j0j4;", 2, NONE, 2, 0, 2);
+        ofStaff("d3 3 1j0.j4;", 3, NONE, 2, 0, 3);
+        ofStaff("d3 3 0l0r4l0r4l0r4l0r4l0r4;", 10, NONE, 2, 10, 2);
         ofStaff("d0 0 0l0r0r0;", 3, 2, 3, 2, NONE);
         ofStaff("d0 0 0j4;", 1, 0, 1, 0, NONE);
     }
