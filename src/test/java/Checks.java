@@ -1,21 +1,24 @@
 /** What all tests share: telling a text, comparing answers, ending with the exit code. */
 final class Checks {
     private static int wrong = 0;
+    private static String sentence = "";
 
     private Checks() {
     }
 
+    /** The document's words that the checks from here on are for; told with each that fails. */
+    static void sentence(String words) {
+        sentence = "\"" + words + "\": ";
+    }
+
     static void due(String call, long got, long want) {
-        if (got != want) {
-            wrong++;
-            System.out.println(call + " answered " + got + ", due is " + want);
-        }
+        isTrue(call + " answered " + got + ", due is " + want, got == want);
     }
 
     static void isTrue(String what, boolean holds) {
         if (!holds) {
             wrong++;
-            System.out.println(what);
+            System.out.println(sentence + what);
         }
     }
 
@@ -54,6 +57,16 @@ final class Checks {
         if (want.length < 10) {
             due(when + ": sign(" + d + ", " + want.length + ")", x.sign(d, want.length), DanceStaffs.NONE);
         }
+    }
+
+    /** What the first two dancers of a text do, asked both ways round. */
+    static void together(String text, int meeting, int crossing) {
+        DanceStaffs x = told(text);
+        due(text + " meeting", x.meet(0, 1, 0), meeting);
+        due(text + " meeting, the other way", x.meet(1, 0, 0), meeting);
+        due(text + " crossing", x.meet(0, 1, 1), crossing);
+        due(text + " crossing, the other way", x.meet(1, 0, 1), crossing);
+        due(text + " twos", x.count(3), meeting != DanceStaffs.NONE || crossing != DanceStaffs.NONE ? 1 : 0);
     }
 
     static void end() {

@@ -34,6 +34,11 @@ final class Model {
 
     record Token(String word, int place) { }
 
+    record Aim(Stand from, int x, int y, int looks) { }
+
+    // A search is dear, and a way depends on nothing but the aim.
+    private static final Map<Aim, List<Integer>> KNOWN = new HashMap<>();
+
     private String text = "";
     private List<Begin> begins = new ArrayList<>();
     private List<List<Integer>> staffs = new ArrayList<>();
@@ -351,7 +356,8 @@ final class Model {
             || k < -1) {
             return BAD;
         }
-        List<Integer> way = firstWay(danced(d).get(n), x, y, looks);
+        Aim aim = new Aim(danced(d).get(n), x, y, looks);
+        List<Integer> way = KNOWN.computeIfAbsent(aim, to -> firstWay(to.from, to.x, to.y, to.looks));
         return k == -1 ? way.size() : k < way.size() ? way.get(k) : NONE;
     }
 

