@@ -259,6 +259,14 @@ public final class TextBoundsTest {
         fault("d0 0 0t01;", 7);
         fault("d0 0 0. 12;", 8);
         fault("d0 0 0;00", 7);
+        for (int number = 0; number <= 99; number++) {
+            String digits = "" + number / 10 + number % 10;
+            fault("d" + digits + " 0 0;", 1);
+            fault("d0 " + digits + " 0;", 3);
+            fault("d0 0 " + digits + ";", 5);
+            fault("d0 0 0t" + digits + ";", 7);
+            fault("d0 0 0l" + digits + digits + ";", 7);
+        }
         for (String number : new String[] {"4294967296", "4294967297", "2147483648", "18446744073709551616"}) {
             fault("d0 " + number + " 0;", 3);
             fault("d0 0 0t" + number + ";", 7);
