@@ -648,11 +648,11 @@ public final class DanceStaffs {
         }
 
         void remember(Staffs staffs, int d) {
-            int slot = (oldest + size) % MOST_UNDONE;
+            int slot = slotBehind(size);
             if (size < MOST_UNDONE) {
                 size++;
             } else {
-                oldest = (oldest + 1) % MOST_UNDONE;
+                oldest = slotBehind(1);
             }
             dancers[slot] = d;
             lengths[slot] = staffs.lengthOf(d);
@@ -666,12 +666,17 @@ public final class DanceStaffs {
                 return;
             }
             size--;
-            int slot = (oldest + size) % MOST_UNDONE;
+            int slot = slotBehind(size);
             int d = dancers[slot];
             staffs.setLength(d, lengths[slot]);
             for (int beat = 0; beat < MOST_BEATS; beat++) {
                 staffs.replace(d, beat, signs[slot * MOST_BEATS + beat]);
             }
+        }
+
+        /** Always one that there is, whatever the sum. */
+        private int slotBehind(int count) {
+            return Math.floorMod(oldest + count, MOST_UNDONE);
         }
     }
 
